@@ -12,6 +12,14 @@ final class Checks {
     private int made;
     private int wrong;
 
+    static SealedCupboards roomOf(int cupboards) {
+        SealedCupboards room = new SealedCupboards();
+        for (int i = 0; i < cupboards; i++) {
+            room.come();
+        }
+        return room;
+    }
+
     /** The answer as a text, or the name of the very class that the call throws: no class below it counts. */
     static String outcome(Call call) {
         try {

@@ -19,16 +19,8 @@ public final class ComparingTest {
         checks.end("ComparingTest");
     }
 
-    private static SealedCupboards roomOf(int cupboards) {
-        SealedCupboards room = new SealedCupboards();
-        for (int i = 0; i < cupboards; i++) {
-            room.come();
-        }
-        return room;
-    }
-
     private static void compare() {
-        SealedCupboards room = roomOf(2);
+        SealedCupboards room = Checks.roomOf(2);
         checks.due("13: alike", 0, () -> room.differ(0, 1));
         checks.due("14: alike", 1, () -> room.looks(0, 1));
         room.put(0, 0, 5);
@@ -52,7 +44,7 @@ public final class ComparingTest {
 
     /** The things 1 and 425 in the drawers 0 and 1 make the same sum at the place 8 as 0 and 0 do. */
     private static SealedCupboards roomWithHidden() {
-        SealedCupboards room = roomOf(2);
+        SealedCupboards room = Checks.roomOf(2);
         room.put(0, 0, 1);
         room.put(0, 1, 425);
         return room;
@@ -68,7 +60,7 @@ public final class ComparingTest {
     }
 
     private static void compareRefuses() {
-        SealedCupboards room = roomOf(1);
+        SealedCupboards room = Checks.roomOf(1);
         for (int wrong : new int[] {-1, 1, 6, Integer.MIN_VALUE, Integer.MAX_VALUE}) {
             checks.refused(room, "13: first " + wrong, Checks.INDEX, () -> room.differ(wrong, 0));
             checks.refused(room, "13: second " + wrong, Checks.INDEX, () -> room.differ(0, wrong));
@@ -81,7 +73,7 @@ public final class ComparingTest {
     }
 
     private static void mend() {
-        SealedCupboards room = roomOf(2);
+        SealedCupboards room = Checks.roomOf(2);
         checks.due("15: alike", 0, () -> room.mend(0, 1));
         room.put(0, 0, 5);
         room.put(1, 7, 8);
@@ -109,7 +101,7 @@ public final class ComparingTest {
     }
 
     private static SealedCupboards filledAndSealed() {
-        SealedCupboards room = roomOf(1);
+        SealedCupboards room = Checks.roomOf(1);
         for (int drawer = 0; drawer < 16; drawer++) {
             room.put(0, drawer, 613 * drawer);
         }
@@ -152,7 +144,7 @@ public final class ComparingTest {
 
     /** A thing tells as much for the root in each drawer whose way goes as often to the right: 12 is as good as 3. */
     private static void swappedInItsCupboard() {
-        SealedCupboards room = roomOf(2);
+        SealedCupboards room = Checks.roomOf(2);
         room.put(1, 12, 7);
         room.seal(1);
         room.seal(0);
@@ -182,7 +174,7 @@ public final class ComparingTest {
     }
 
     private static void count() {
-        SealedCupboards room = roomOf(6);
+        SealedCupboards room = Checks.roomOf(6);
         checks.due("17: cupboards", 6, () -> room.count(0));
         checks.due("17: one root", 1, () -> room.count(2));
         for (int cupboard = 0; cupboard < 6; cupboard++) {
@@ -226,7 +218,7 @@ public final class ComparingTest {
         room.put(1, 3, 2);
         checks.due("19: with all", digestByCalls(room, 2, 2), room::digest);
         checks.due("19: asked again", room.digest(), room::digest);
-        checks.due("19: one cupboard", digestByCalls(roomOf(1), 1, 0), () -> roomOf(1).digest());
+        checks.due("19: one cupboard", digestByCalls(Checks.roomOf(1), 1, 0), () -> Checks.roomOf(1).digest());
     }
 
     private static long digestByCalls(SealedCupboards room, int cupboards, int seals) {

@@ -17,14 +17,6 @@ public final class CupboardsTest {
         checks.end("CupboardsTest");
     }
 
-    private static SealedCupboards roomOf(int cupboards) {
-        SealedCupboards room = new SealedCupboards();
-        for (int i = 0; i < cupboards; i++) {
-            room.come();
-        }
-        return room;
-    }
-
     private static void newObject() {
         SealedCupboards room = new SealedCupboards();
         for (int what = 0; what < 4; what++) {
@@ -51,7 +43,7 @@ public final class CupboardsTest {
     }
 
     private static void put() {
-        SealedCupboards room = roomOf(2);
+        SealedCupboards room = Checks.roomOf(2);
         checks.due("3: put into an empty drawer", 0, () -> room.put(0, 0, 9999));
         checks.due("3: put over a thing", 9999, () -> room.put(0, 0, 12));
         checks.due("3: put the same", 12, () -> room.put(0, 0, 12));
@@ -71,7 +63,7 @@ public final class CupboardsTest {
     }
 
     private static void putRefuses() {
-        SealedCupboards room = roomOf(1);
+        SealedCupboards room = Checks.roomOf(1);
         room.put(0, 0, 7);
         checks.refused(room, "3: cupboard -1", Checks.INDEX, () -> room.put(-1, 0, 0));
         checks.refused(room, "3: cupboard 1 of 1", Checks.INDEX, () -> room.put(1, 0, 0));
@@ -85,7 +77,7 @@ public final class CupboardsTest {
     }
 
     private static void swap() {
-        SealedCupboards room = roomOf(1);
+        SealedCupboards room = Checks.roomOf(1);
         room.put(0, 0, 5);
         room.put(0, 15, 27);
         checks.due("4: swap of the outermost: 2 drawers, 6 below the root, the root", 9, () -> room.swap(0, 0, 15));
@@ -100,7 +92,7 @@ public final class CupboardsTest {
     }
 
     private static void swapOfLikeSums() {
-        SealedCupboards room = roomOf(1);
+        SealedCupboards room = Checks.roomOf(1);
         room.put(0, 2, 8);
         checks.due("4: swap with itself", 0, () -> room.swap(0, 2, 2));
         checks.due("4: swap of like things", 0, () -> room.swap(0, 3, 4));
@@ -112,7 +104,7 @@ public final class CupboardsTest {
     }
 
     private static void swapRefuses() {
-        SealedCupboards room = roomOf(1);
+        SealedCupboards room = Checks.roomOf(1);
         room.put(0, 0, 7);
         checks.refused(room, "4: cupboard -1", Checks.INDEX, () -> room.swap(-1, 0, 1));
         checks.refused(room, "4: cupboard 1 of 1", Checks.INDEX, () -> room.swap(1, 0, 1));
@@ -124,7 +116,7 @@ public final class CupboardsTest {
     }
 
     private static void sum() {
-        SealedCupboards room = roomOf(1);
+        SealedCupboards room = Checks.roomOf(1);
         int[] empty = {0, 382, 688, 877, 854, 509, 164, 816, 219, 610, 4, 395, 786, 180, 571, 962,
             101, 202, 303, 404, 505, 606, 707, 808, 909, 13, 114, 215, 316, 417, 518, 619};
         int[] filled = {0, 909, 153, 219, 502, 509, 164, 775, 867, 610, 4, 395, 786, 180, 571, 267,
@@ -148,7 +140,7 @@ public final class CupboardsTest {
     }
 
     private static void told() {
-        SealedCupboards room = roomOf(6);
+        SealedCupboards room = Checks.roomOf(6);
         room.put(5, 0, 9999);
         room.put(5, 15, 1);
         room.put(5, 7, 3);
@@ -166,7 +158,7 @@ public final class CupboardsTest {
     }
 
     private static void toldOfSeals() {
-        SealedCupboards room = roomOf(2);
+        SealedCupboards room = Checks.roomOf(2);
         room.seal(0);
         room.seal(1);
         room.seal(0);
@@ -185,7 +177,7 @@ public final class CupboardsTest {
     }
 
     private static void thing() {
-        SealedCupboards room = roomOf(2);
+        SealedCupboards room = Checks.roomOf(2);
         for (int drawer = 0; drawer < 16; drawer++) {
             room.put(1, drawer, 9984 + drawer);
         }

@@ -15,16 +15,8 @@ public final class SealsTest {
         checks.end("SealsTest");
     }
 
-    private static SealedCupboards roomOf(int cupboards) {
-        SealedCupboards room = new SealedCupboards();
-        for (int i = 0; i < cupboards; i++) {
-            room.come();
-        }
-        return room;
-    }
-
     private static void seal() {
-        SealedCupboards room = roomOf(6);
+        SealedCupboards room = Checks.roomOf(6);
         for (int number = 0; number < 20; number++) {
             int cupboard = number % 6;
             checks.due("8: seal", number, () -> room.seal(cupboard));
@@ -35,7 +27,7 @@ public final class SealsTest {
     }
 
     private static void sealRefusesTheFirstNamed() {
-        SealedCupboards room = roomOf(1);
+        SealedCupboards room = Checks.roomOf(1);
         checks.refused(room, "8: cupboard -1", Checks.INDEX, () -> room.seal(-1));
         checks.refused(room, "8: cupboard 1 of 1", Checks.INDEX, () -> room.seal(1));
         for (int i = 0; i < 20; i++) {
@@ -46,7 +38,7 @@ public final class SealsTest {
     }
 
     private static void about() {
-        SealedCupboards room = roomOf(3);
+        SealedCupboards room = Checks.roomOf(3);
         room.put(2, 0, 9999);
         room.put(2, 15, 1);
         room.seal(2);
@@ -71,7 +63,7 @@ public final class SealsTest {
     }
 
     private static void proof() {
-        SealedCupboards room = roomOf(2);
+        SealedCupboards room = Checks.roomOf(2);
         int[] first = {202, 610, 509, 877};
         int[] sixth = {505, 395, 854, 877};
         int[] last = {518, 571, 164, 688};
@@ -107,7 +99,7 @@ public final class SealsTest {
     }
 
     private static void comesRefuses() {
-        SealedCupboards room = roomOf(1);
+        SealedCupboards room = Checks.roomOf(1);
         checks.refused(room, "11: drawer -1", Checks.INDEX, () -> room.comes(-1, 0, 0, 0, 0, 0));
         checks.refused(room, "11: drawer 16", Checks.INDEX, () -> room.comes(16, 0, 0, 0, 0, 0));
         checks.refused(room, "11: drawer before thing", Checks.INDEX, () -> room.comes(16, -1, 0, 0, 0, 0));
@@ -123,7 +115,7 @@ public final class SealsTest {
     }
 
     private static void proofsCome() {
-        SealedCupboards room = roomOf(1);
+        SealedCupboards room = Checks.roomOf(1);
         for (int drawer = 0; drawer < 16; drawer++) {
             room.put(0, drawer, 613 * drawer);
         }
@@ -136,7 +128,7 @@ public final class SealsTest {
     }
 
     private static void proves() {
-        SealedCupboards room = roomOf(2);
+        SealedCupboards room = Checks.roomOf(2);
         for (int drawer = 0; drawer < 16; drawer++) {
             room.put(1, drawer, 600 * drawer + 999);
         }
@@ -158,7 +150,7 @@ public final class SealsTest {
     }
 
     private static void provesRefuses() {
-        SealedCupboards room = roomOf(1);
+        SealedCupboards room = Checks.roomOf(1);
         room.seal(0);
         checks.refused(room, "12: seal -1", Checks.INDEX, () -> room.proves(-1, 0, 0));
         checks.refused(room, "12: seal 1 of 1", Checks.INDEX, () -> room.proves(1, 0, 0));
