@@ -12,14 +12,6 @@ final class Checks {
     private int made;
     private int wrong;
 
-    static SealedCupboards roomOf(int cupboards) {
-        SealedCupboards room = new SealedCupboards();
-        for (int i = 0; i < cupboards; i++) {
-            room.come();
-        }
-        return room;
-    }
-
     /** The answer as a text, or the name of the very class that the call throws: no class below it counts. */
     static String outcome(Call call) {
         try {
@@ -32,13 +24,6 @@ final class Checks {
 
     void due(String what, Object want, Call call) {
         same(what, String.valueOf(want), outcome(call));
-    }
-
-    /** A call that throws must leave all that the digest tells as it was. */
-    void refused(SealedCupboards room, String what, String want, Call call) {
-        long before = room.digest();
-        due(what, want, call);
-        same(what + " changes nothing", String.valueOf(before), String.valueOf(room.digest()));
     }
 
     void same(String what, String want, String got) {

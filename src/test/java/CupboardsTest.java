@@ -1,23 +1,37 @@
-/** Promises 1 to 7: a new object, come, put, swap, sum, told, thing. */
+/** Promises 1 to 7: a new object, come, put, swap, sum, told, thing. What they refuse is in RefusalsTest. */
 public final class CupboardsTest {
     private static final Checks checks = new Checks();
 
     public static void main(String[] args) {
-        newObject();
+        newObjectIsEmpty();
+        newObjectIsItsOwn();
         come();
+        comeFillsTheRoom();
         put();
-        putRefuses();
+        putInEveryCorner();
+        putOfTheSameSum();
         swap();
+        swapInEitherOrder();
+        swapLeavesEqualSumsAbove();
+        swapWithItself();
+        swapOfLikeThings();
         swapOfLikeSums();
-        swapRefuses();
-        sum();
+        sumOfTheEmptyCupboard();
+        sumsAfterPuts();
+        sumInEveryCorner();
         told();
+        toldOfTheEmptyCupboard();
+        toldOfTheFullCupboard();
         toldOfSeals();
+        toldOfAllSeals();
         thing();
         checks.end("CupboardsTest");
     }
 
-    private static void newObject() {
+    // ---- promise 1
+
+    /** "Creates an empty room." */
+    private static void newObjectIsEmpty() {
         SealedCupboards room = new SealedCupboards();
         for (int what = 0; what < 4; what++) {
             int asked = what;
@@ -25,11 +39,24 @@ public final class CupboardsTest {
         }
         checks.due("1: mean of a new object", 0.0, room::mean);
         checks.due("1: digest of a new object", 1277L * 31 * 31 * 31 * 31, room::digest);
-        checks.refused(room, "1: sum of a new object", Checks.INDEX, () -> room.sum(0, 1));
-        checks.refused(room, "1: about of a new object", Checks.INDEX, () -> room.about(0, 0));
-        room.come();
-        checks.due("1: another object is empty", 0, () -> new SealedCupboards().count(0));
+        checks.due("1: comes needs no cupboard", 218, () -> room.comes(0, 0, 0, 0, 0, 0));
+        checks.due("1: no cupboard", Checks.INDEX, () -> room.told(0, 0));
+        checks.due("1: no seal", Checks.INDEX, () -> room.about(0, 0));
+        checks.due("1: the first cupboard", 0, room::come);
+        checks.due("1: still no seal", Checks.INDEX, () -> room.about(0, 0));
+        checks.due("1: the first seal", 0, () -> room.seal(0));
     }
+
+    private static void newObjectIsItsOwn() {
+        SealedCupboards other = Rooms.full();
+        SealedCupboards room = new SealedCupboards();
+        checks.due("1: empty beside a full one", 0, () -> room.count(0));
+        room.come();
+        room.put(0, 0, 3);
+        checks.due("1: what is put here is not put there", 0, () -> other.thing(0, 0));
+    }
+
+    // ---- promise 2
 
     private static void come() {
         SealedCupboards room = new SealedCupboards();
@@ -39,11 +66,21 @@ public final class CupboardsTest {
             checks.due("2: come counts", number + 1, () -> room.count(0));
             checks.due("2: a new cupboard is empty", 0, () -> room.told(come, 3));
         }
-        checks.refused(room, "2: the seventh", Checks.STATE, room::come);
     }
 
+    private static void comeFillsTheRoom() {
+        SealedCupboards room = Rooms.of(5, 20);
+        checks.due("2: the last one, with all seals made", 5, room::come);
+        checks.due("2: it has no seals", 0, () -> room.told(5, 4));
+        checks.due("2: one too many", Checks.STATE, room::come);
+        checks.due("2: the last one is as it was", 382, () -> room.sum(5, 1));
+        checks.due("2: there are 6", 6, () -> room.count(0));
+    }
+
+    // ---- promise 3
+
     private static void put() {
-        SealedCupboards room = Checks.roomOf(2);
+        SealedCupboards room = Rooms.of(2);
         checks.due("3: put into an empty drawer", 0, () -> room.put(0, 0, 9999));
         checks.due("3: put over a thing", 9999, () -> room.put(0, 0, 12));
         checks.due("3: put the same", 12, () -> room.put(0, 0, 12));
@@ -55,110 +92,171 @@ public final class CupboardsTest {
         checks.due("3: the thing lies there", 12, () -> room.thing(0, 0));
         checks.due("3: not in the other cupboard", 0, () -> room.thing(1, 0));
         checks.due("3: the other cupboard has no changes", 0, () -> room.told(1, 1));
-        room.put(1, 3, 5);
-        int root = room.sum(1, 1);
-        checks.due("3: a thing of the same sum", 5, () -> room.put(1, 3, 1002));
-        checks.due("3: its root is the same", root, () -> room.sum(1, 1));
-        checks.due("3: it is a change", 2, () -> room.told(1, 1));
     }
 
-    private static void putRefuses() {
-        SealedCupboards room = Checks.roomOf(1);
-        room.put(0, 0, 7);
-        checks.refused(room, "3: cupboard -1", Checks.INDEX, () -> room.put(-1, 0, 0));
-        checks.refused(room, "3: cupboard 1 of 1", Checks.INDEX, () -> room.put(1, 0, 0));
-        checks.refused(room, "3: drawer -1", Checks.INDEX, () -> room.put(0, -1, 0));
-        checks.refused(room, "3: drawer 16", Checks.INDEX, () -> room.put(0, 16, 0));
-        checks.refused(room, "3: thing -1", Checks.ARGUMENT, () -> room.put(0, 0, -1));
-        checks.refused(room, "3: thing 10000", Checks.ARGUMENT, () -> room.put(0, 0, 10000));
-        checks.refused(room, "3: cupboard before thing", Checks.INDEX, () -> room.put(1, 0, -1));
-        checks.refused(room, "3: drawer before thing", Checks.INDEX, () -> room.put(0, 16, 10000));
-        checks.refused(room, "3: far off", Checks.INDEX, () -> room.put(Integer.MIN_VALUE, Integer.MAX_VALUE, 0));
+    private static void putInEveryCorner() {
+        SealedCupboards room = Rooms.of(6);
+        for (int cupboard : new int[] {0, 5}) {
+            for (int drawer : new int[] {0, 15}) {
+                String at = " in " + cupboard + ", " + drawer;
+                checks.due("3: the greatest thing" + at, 0, () -> room.put(cupboard, drawer, 9999));
+                checks.due("3: the least thing" + at, 9999, () -> room.put(cupboard, drawer, 0));
+                checks.due("3: the least thing but one" + at, 0, () -> room.put(cupboard, drawer, 1));
+                checks.due("3: the greatest but one" + at, 1, () -> room.put(cupboard, drawer, 9998));
+                checks.due("3: it lies there" + at, 9998, () -> room.thing(cupboard, drawer));
+            }
+        }
+        checks.due("3: nothing beside", 2, () -> room.told(5, 2));
     }
+
+    private static void putOfTheSameSum() {
+        SealedCupboards room = Rooms.of(1);
+        room.put(0, 3, 5);
+        int root = room.sum(0, 1);
+        checks.due("3: a thing of the same sum", 5, () -> room.put(0, 3, 1002));
+        checks.due("3: its root is the same", root, () -> room.sum(0, 1));
+        checks.due("3: it lies there", 1002, () -> room.thing(0, 3));
+        checks.due("3: it is a change", 2, () -> room.told(0, 1));
+    }
+
+    // ---- promise 4
 
     private static void swap() {
-        SealedCupboards room = Checks.roomOf(1);
+        SealedCupboards room = Rooms.of(1);
         room.put(0, 0, 5);
         room.put(0, 15, 27);
         checks.due("4: swap of the outermost: 2 drawers, 6 below the root, the root", 9, () -> room.swap(0, 0, 15));
         checks.due("4: first thing", 27, () -> room.thing(0, 0));
         checks.due("4: last thing", 5, () -> room.thing(0, 15));
         checks.due("4: two changes", 4, () -> room.told(0, 1));
-        checks.due("4: swap back", 9, () -> room.swap(0, 15, 0));
         checks.due("4: swap of neighbours: 2 drawers and 4 above", 6, () -> room.swap(0, 0, 1));
         checks.due("4: the thing went", 0, () -> room.thing(0, 0));
-        checks.due("4: the thing came", 5, () -> room.thing(0, 1));
-        checks.due("4: changes", 8, () -> room.told(0, 1));
+        checks.due("4: the thing came", 27, () -> room.thing(0, 1));
+        checks.due("4: changes", 6, () -> room.told(0, 1));
+    }
+
+    private static void swapInEitherOrder() {
+        SealedCupboards room = Rooms.of(6);
+        room.put(5, 0, 9999);
+        checks.due("4: the greater drawer first", 9, () -> room.swap(5, 15, 0));
+        checks.due("4: it went", 0, () -> room.thing(5, 0));
+        checks.due("4: it came", 9999, () -> room.thing(5, 15));
+        checks.due("4: swap back", 9, () -> room.swap(5, 0, 15));
+        checks.due("4: it is back", 9999, () -> room.thing(5, 0));
+        checks.due("4: the root is back", 648, () -> room.sum(5, 1));
+        checks.due("4: the other cupboards are as they were", 0, () -> room.count(3) - room.told(5, 1));
+    }
+
+    /** Sums on the way of a swapped thing may stay the same ones: these are not counted. */
+    private static void swapLeavesEqualSumsAbove() {
+        SealedCupboards room = Rooms.of(1);
+        for (int drawer = 0; drawer <= 15; drawer++) {
+            room.put(0, drawer, 7 * drawer + 1);
+        }
+        checks.due("4: the drawers 1 and 2: not the sum at the place 4", 4, () -> room.swap(0, 1, 2));
+        checks.due("4: the drawers 3 and 12: all but the root", 8, () -> room.swap(0, 3, 12));
+        checks.due("4: the drawers 7 and 8: with the root", 9, () -> room.swap(0, 7, 8));
+    }
+
+    private static void swapWithItself() {
+        SealedCupboards room = Rooms.of(1);
+        room.put(0, 0, 8);
+        room.put(0, 15, 9999);
+        checks.due("4: the first with itself", 0, () -> room.swap(0, 0, 0));
+        checks.due("4: the last with itself", 0, () -> room.swap(0, 15, 15));
+        checks.due("4: the first thing lies there", 8, () -> room.thing(0, 0));
+        checks.due("4: the last thing lies there", 9999, () -> room.thing(0, 15));
+        checks.due("4: no changes", 2, () -> room.told(0, 1));
+    }
+
+    private static void swapOfLikeThings() {
+        SealedCupboards room = Rooms.of(1);
+        checks.due("4: swap in an empty cupboard", 0, () -> room.swap(0, 0, 15));
+        room.put(0, 2, 8);
+        room.put(0, 9, 8);
+        checks.due("4: swap of like things", 0, () -> room.swap(0, 2, 9));
+        checks.due("4: no changes", 2, () -> room.told(0, 1));
     }
 
     private static void swapOfLikeSums() {
-        SealedCupboards room = Checks.roomOf(1);
+        SealedCupboards room = Rooms.of(1);
         room.put(0, 2, 8);
-        checks.due("4: swap with itself", 0, () -> room.swap(0, 2, 2));
-        checks.due("4: swap of like things", 0, () -> room.swap(0, 3, 4));
-        checks.due("4: no changes", 1, () -> room.told(0, 1));
         room.put(0, 9, 8 + 997);
         checks.due("4: swap of things with like sums", 0, () -> room.swap(0, 2, 9));
         checks.due("4: the things went all the same", 1005, () -> room.thing(0, 2));
         checks.due("4: two changes", 4, () -> room.told(0, 1));
     }
 
-    private static void swapRefuses() {
-        SealedCupboards room = Checks.roomOf(1);
-        room.put(0, 0, 7);
-        checks.refused(room, "4: cupboard -1", Checks.INDEX, () -> room.swap(-1, 0, 1));
-        checks.refused(room, "4: cupboard 1 of 1", Checks.INDEX, () -> room.swap(1, 0, 1));
-        checks.refused(room, "4: a -1", Checks.INDEX, () -> room.swap(0, -1, 0));
-        checks.refused(room, "4: a 16", Checks.INDEX, () -> room.swap(0, 16, 0));
-        checks.refused(room, "4: b -1", Checks.INDEX, () -> room.swap(0, 0, -1));
-        checks.refused(room, "4: b 16", Checks.INDEX, () -> room.swap(0, 0, 16));
-        checks.refused(room, "4: both alike and wrong", Checks.INDEX, () -> room.swap(0, 16, 16));
-    }
+    // ---- promise 5
 
-    private static void sum() {
-        SealedCupboards room = Checks.roomOf(1);
+    private static void sumOfTheEmptyCupboard() {
         int[] empty = {0, 382, 688, 877, 854, 509, 164, 816, 219, 610, 4, 395, 786, 180, 571, 962,
             101, 202, 303, 404, 505, 606, 707, 808, 909, 13, 114, 215, 316, 417, 518, 619};
-        int[] filled = {0, 909, 153, 219, 502, 509, 164, 775, 867, 610, 4, 395, 786, 180, 571, 267,
-            177, 202, 303, 404, 505, 606, 707, 808, 909, 13, 114, 215, 316, 417, 518, 656};
-        sumsAre(room, empty);
-        room.put(0, 0, 9999);
-        room.put(0, 15, 1);
-        sumsAre(room, filled);
-        checks.refused(room, "5: place 0", Checks.INDEX, () -> room.sum(0, 0));
-        checks.refused(room, "5: place -1", Checks.INDEX, () -> room.sum(0, -1));
-        checks.refused(room, "5: place 32", Checks.INDEX, () -> room.sum(0, 32));
-        checks.refused(room, "5: cupboard -1", Checks.INDEX, () -> room.sum(-1, 1));
-        checks.refused(room, "5: cupboard 1 of 1", Checks.INDEX, () -> room.sum(1, 1));
+        sumsAre(Rooms.of(1), 0, empty);
+        sumsAre(Rooms.of(6), 5, empty);
     }
 
-    private static void sumsAre(SealedCupboards room, int[] want) {
+    private static void sumsAfterPuts() {
+        SealedCupboards room = Rooms.of(1);
+        int[] filled = {0, 909, 153, 219, 502, 509, 164, 775, 867, 610, 4, 395, 786, 180, 571, 267,
+            177, 202, 303, 404, 505, 606, 707, 808, 909, 13, 114, 215, 316, 417, 518, 656};
+        room.put(0, 0, 9999);
+        room.put(0, 15, 1);
+        sumsAre(room, 0, filled);
+    }
+
+    private static void sumsAre(SealedCupboards room, int cupboard, int[] want) {
         for (int place = 1; place <= 31; place++) {
             int asked = place;
-            checks.due("5: sum at " + place, want[place], () -> room.sum(0, asked));
+            checks.due("5: sum at " + place, want[place], () -> room.sum(cupboard, asked));
+        }
+    }
+
+    private static void sumInEveryCorner() {
+        SealedCupboards room = Rooms.full();
+        checks.due("5: just below the places", Checks.INDEX, () -> room.sum(0, 0));
+        checks.due("5: the root of the first cupboard", 382, () -> room.sum(0, 1));
+        checks.due("5: the last place of the first cupboard", 619, () -> room.sum(0, 31));
+        checks.due("5: the root of the last cupboard", 698, () -> room.sum(5, 1));
+        checks.due("5: the last place of the last cupboard", 695, () -> room.sum(5, 31));
+        checks.due("5: just above the places", Checks.INDEX, () -> room.sum(5, 32));
+    }
+
+    // ---- promise 6
+
+    private static void toldIs(SealedCupboards room, int cupboard, String whose, int... want) {
+        for (int what = 0; what <= 5; what++) {
+            int asked = what;
+            checks.due("6: " + whose + ", " + what, want[what], () -> room.told(cupboard, asked));
         }
     }
 
     private static void told() {
-        SealedCupboards room = Checks.roomOf(6);
+        SealedCupboards room = Rooms.of(6);
         room.put(5, 0, 9999);
         room.put(5, 15, 1);
         room.put(5, 7, 3);
         room.put(5, 7, 0);
-        int[] want = {909, 4, 2, 10000, 0, 0};
-        for (int what = 0; what < 6; what++) {
-            int asked = what;
-            checks.due("6: told " + what, want[what], () -> room.told(5, asked));
-        }
-        checks.due("6: an empty cupboard's root", 382, () -> room.told(0, 0));
-        checks.refused(room, "6: what -1", Checks.INDEX, () -> room.told(0, -1));
-        checks.refused(room, "6: what 6", Checks.INDEX, () -> room.told(0, 6));
-        checks.refused(room, "6: cupboard -1", Checks.INDEX, () -> room.told(-1, 0));
-        checks.refused(room, "6: cupboard 6", Checks.INDEX, () -> room.told(6, 0));
+        toldIs(room, 5, "two things", 909, 4, 2, 10000, 0, 0);
     }
 
+    private static void toldOfTheEmptyCupboard() {
+        toldIs(Rooms.of(1), 0, "the only cupboard, empty", 382, 0, 0, 0, 0, 0);
+        toldIs(Rooms.of(6), 5, "the last cupboard, empty", 382, 0, 0, 0, 0, 0);
+        SealedCupboards room = Rooms.of(1);
+        room.put(0, 0, 1);
+        room.put(0, 0, 0);
+        toldIs(room, 0, "a cupboard emptied again", 382, 2, 0, 0, 0, 0);
+    }
+
+    private static void toldOfTheFullCupboard() {
+        toldIs(Rooms.full(), 5, "the greatest thing everywhere", 698, 16, 16, 159984, 4, 4);
+        toldIs(Rooms.full(), 4, "all but one drawer filled, and changed since", 191, 17, 15, 73560, 3, 0);
+    }
+
+    /** "those of these that it keeps: whose root is its own one now" */
     private static void toldOfSeals() {
-        SealedCupboards room = Checks.roomOf(2);
+        SealedCupboards room = Rooms.of(2);
         room.seal(0);
         room.seal(1);
         room.seal(0);
@@ -176,8 +274,24 @@ public final class CupboardsTest {
         checks.due("6: it keeps none", 0, () -> room.told(0, 5));
     }
 
+    private static void toldOfAllSeals() {
+        SealedCupboards room = Rooms.of(6);
+        for (int seal = 0; seal < 20; seal++) {
+            room.seal(5);
+        }
+        checks.due("6: all seals are of the last", 20, () -> room.told(5, 4));
+        checks.due("6: it keeps them all", 20, () -> room.told(5, 5));
+        checks.due("6: none is of the first", 0, () -> room.told(0, 4));
+        checks.due("6: the first keeps none, though the roots are equal", 0, () -> room.told(0, 5));
+        room.put(5, 15, 1);
+        checks.due("6: all seals are still of the last", 20, () -> room.told(5, 4));
+        checks.due("6: it keeps none of them", 0, () -> room.told(5, 5));
+    }
+
+    // ---- promise 7
+
     private static void thing() {
-        SealedCupboards room = Checks.roomOf(2);
+        SealedCupboards room = Rooms.of(2);
         for (int drawer = 0; drawer < 16; drawer++) {
             room.put(1, drawer, 9984 + drawer);
         }
@@ -186,9 +300,5 @@ public final class CupboardsTest {
             checks.due("7: thing in " + drawer, 9984 + drawer, () -> room.thing(1, asked));
             checks.due("7: nothing in " + drawer, 0, () -> room.thing(0, asked));
         }
-        checks.refused(room, "7: drawer -1", Checks.INDEX, () -> room.thing(0, -1));
-        checks.refused(room, "7: drawer 16", Checks.INDEX, () -> room.thing(0, 16));
-        checks.refused(room, "7: cupboard -1", Checks.INDEX, () -> room.thing(-1, 0));
-        checks.refused(room, "7: cupboard 2 of 2", Checks.INDEX, () -> room.thing(2, 0));
     }
 }
